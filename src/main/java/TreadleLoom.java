@@ -312,8 +312,7 @@ public final class TreadleLoom {
         if (!woven.hasFields()) {
             return 0;
         }
-        int ends = woven.endsReached(false);
-        return Integer.bitCount(isEnd ? ends : woven.picksNextTo(ends, false));
+        return Integer.bitCount(isEnd ? woven.endsReached(false) : woven.picksReached(false));
     }
 
     public double meanFloat() {
@@ -490,8 +489,8 @@ public final class TreadleLoom {
     }
 
     /**
-     * Ints in a fixed room. All array access of the program goes through here, and each index is
-     * tested: callers keep within the size, and one that did not would still not reach the machine.
+     * Ints in a fixed room. All arrays of ints are reached through here, and each index is tested:
+     * callers keep within the size, and one that did not would still not reach the machine.
      */
     private static final class Row {
         private final int[] cells;
@@ -818,7 +817,7 @@ public final class TreadleLoom {
                 int down = 0;
                 for (int end = 0; end < threading.size; end++) {
                     if (hasBit(shafts, threading.at(end))) {
-                        ends.put(end, ends.at(end) | 1 << pick);
+                        ends.put(end, ends.at(end) | (1 << pick));
                     } else {
                         down |= 1 << end;
                     }
@@ -853,8 +852,7 @@ public final class TreadleLoom {
         }
 
         private boolean isAllReached(boolean isBack) {
-            int reached = endsReached(isBack);
-            return reached == fullSet(ends.size) && picksNextTo(reached, isBack) == fullSet(picks.size);
+            return endsReached(isBack) == fullSet(ends.size) && picksReached(isBack) == fullSet(picks.size);
         }
 
         /** To which ends one comes from the first (or, if it is back, from which one comes to it). */
@@ -862,7 +860,8 @@ public final class TreadleLoom {
             int reached = 1;
             // Each round but the last adds one end at least.
             for (int round = 0; round < MOST_NUMBERS; round++) {
-                int more = reached | endsNextTo(picksNextTo(reached, isBack), isBack);
+                int nextPicks = nextTo(ends, reached, picks, isBack);
+                int more = reached | nextTo(picks, nextPicks, ends, isBack);
                 if (more == reached) {
                     break;
                 }
@@ -871,26 +870,22 @@ public final class TreadleLoom {
             return reached;
         }
 
-        int picksNextTo(int someEnds, boolean isBack) {
-            return nextTo(ends, someEnds, isBack) & fullSet(picks.size);
-        }
-
-        private int endsNextTo(int somePicks, boolean isBack) {
-            return nextTo(picks, somePicks, isBack) & fullSet(ends.size);
+        int picksReached(boolean isBack) {
+            return nextTo(ends, endsReached(isBack), picks, isBack);
         }
 
         /**
          * Where the ways of the members lead. Over each field just one leads, from its end or from
          * its pick: so a way back leads over all the fields that are not in the thread's own set.
          */
-        private static int nextTo(Row threads, int members, boolean isBack) {
+        private static int nextTo(Row from, int members, Row to, boolean isBack) {
             int next = 0;
-            for (int i = 0; i < threads.size; i++) {
+            for (int i = 0; i < from.size; i++) {
                 if (hasBit(members, i)) {
-                    next |= isBack ? ~threads.at(i) : threads.at(i);
+                    next |= isBack ? ~from.at(i) : from.at(i);
                 }
             }
-            return next;
+            return next & fullSet(to.size);
         }
     }
 }

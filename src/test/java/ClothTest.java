@@ -75,6 +75,9 @@ public final class ClothTest {
                 Checks.is("colour without colours", loom.field(end, pick, 1), 0);
             }
         }
+        Checks.write(loom, 2, 5);
+        Checks.is("one colour for all ends", loom.field(4, 1, 1), 5);
+        Checks.clear(loom, 2);
         coloursGoRound(loom, ups);
         fieldRefuses(loom);
     }

@@ -25,6 +25,7 @@ public final class ProgramsTest {
         faultsAreTold();
         blockFaultsAreTold();
         tooManyNumbersAreTold();
+        tooManyNumbersOfBlocksAreTold();
         promise5Number();
         promise6Period();
         promise23LengthWith();
@@ -172,6 +173,8 @@ public final class ProgramsTest {
         compiles("01231212", 0, 1, 2, 3, MIRROR, BACK, TWICE);
         compiles("01233", 0, 1, 2, MIRROR, UP, UP, 3);
         compiles("70121", 7, OPEN, 0, 1, 2, MIRROR, CLOSE);
+        compiles("70121", 7, OPEN, OPEN, 0, CLOSE, 1, 2, MIRROR, CLOSE);
+        compiles("000000000000000011111111111111", 0, 28, TWICE, OPEN, 1, 28, MIRROR, CLOSE);
         compiles("0121012101210121", OPEN, 0, 1, 2, MIRROR, CLOSE, TWICE, TWICE);
         compiles("1233", 1, 2, 3, OPEN, CLOSE, MIRROR, UP);
         compiles("012121", 0, 1, 2, MIRROR, MIRROR);
@@ -246,6 +249,8 @@ public final class ProgramsTest {
 
     private static void tooManyNumbersAreTold() {
         compiles("00000000000000000000000000000000", 0, 28, 24);
+        compiles("00000000000000000000000000011111", 0, 29, 23, 1, 1, 1, 1, 1);
+        fails("5@8", 0, 29, 23, 1, 1, 1, 1, 1, 1);
         fails("5@3", 0, 28, 24, 1);
         fails("5@2", 0, 28, 25);
         fails("5@3", OPEN, 0, 28, 25, CLOSE);
@@ -257,6 +262,20 @@ public final class ProgramsTest {
         fails("5@3", 0, 28, 24, MIRROR);
         fails("5@3", 0, 28, 24, 1, CLOSE);
         compiles("11111111111111111111111111111111", 0, 28, 24, UP, OPEN, CLOSE, 29, BACK, OPEN, OPEN, CLOSE, CLOSE);
+    }
+
+    private static void tooManyNumbersOfBlocksAreTold() {
+        TreadleLoom loom = Checks.loom();
+        Checks.write(loom, 4, 0, 28, TWICE);
+        Checks.write(loom, 0, 44, 44);
+        Checks.is("32 of two blocks", loom.ofProgram(0, 1), 32);
+        failsIn(loom, "5@2", 0, 44, 44, 44);
+        failsIn(loom, "5@2", 8, 1, 44, 44);
+        Checks.write(loom, 4, 3);
+        failsIn(loom, "5@1", 0, 44, 44);
+        Checks.write(loom, 5, 44, TWICE);
+        Checks.is("that is the block's fault", Checks.faultOf(loom, 5), "5@1");
+        failsIn(loom, "6@0", 0, 45);
     }
 
     private static void promise5Number() {

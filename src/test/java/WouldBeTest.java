@@ -98,6 +98,15 @@ public final class WouldBeTest {
                 1, 2, 4, 8, 16, 32, 64, 0,
                 3, 2, 3, 1, 3, 3, 2, 2, 2, 2,
                 2, 2, 1, 3, 2, 0, 0, 0, 0, 3, 1, 2));
+        // Five ends over two picks, and one over three: floats of 1, 2, 3 and 5.
+        TreadleLoom blocks = Checks.loom(Checks.row(0, 0, 0, 0, 0, 1), Checks.row(0, 0, 1, 1, 1));
+        Checks.is("digest of longer floats", blocks.digest(), summed(
+                6, 6, 0, -1, 6, 0, 0, 0, 0, 0, 1, 5, 5, 0, -1, 5, 0, 0, 1, 1, 1,
+                0, 0, 0, -1, 0, 0, 0, 0, -1, 0, 0, 0, 0, -1, 0, 0, 0, 0, -1, 0,
+                0, 0, 0, -1, 0, 0, 0, 0, -1, 0, 0, 0, 0, -1, 0, 0, 0, 0, -1, 0,
+                1, 2, 4, 8, 16, 32, 64, 128,
+                6, 5, 13, 5, 6, 5, 2, 2, 2, 2,
+                6, 5, 1, 6, 5, 9, 4, 3, 30, 0, 0, 0));
         Checks.is("digest again", loom.digest(), loom.digest());
     }
 }
