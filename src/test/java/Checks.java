@@ -1,6 +1,11 @@
 import java.util.Arrays;
+import java.util.function.Consumer;
+import java.util.function.Supplier;
 
-/** Counts what is as due, and prints what is not. */
+/**
+ * Counts what is as due, and prints what is not. Nothing is promised of an object after its call
+ * 512: so those that are asked much are made anew.
+ */
 final class Checks {
     static final Class<?> INDEX = IndexOutOfBoundsException.class;
     static final Class<?> ARGUMENT = IllegalArgumentException.class;
@@ -8,8 +13,18 @@ final class Checks {
 
     private static int passed;
     private static int failed;
+    private static String about = "";
 
     private Checks() {
+    }
+
+    /** What the checks from here on are about: it is put ahead of what they print. */
+    static void about(String words) {
+        about = words;
+    }
+
+    static int many() {
+        return passed + failed;
     }
 
     static void is(String what, long got, long want) {
@@ -30,10 +45,18 @@ final class Checks {
 
     /** The call throws just this class, not one below it (those the machine throws), and changes nothing. */
     static void refuses(String what, TreadleLoom loom, Class<?> want, Runnable call) {
-        String before = stateOf(loom);
+        long before = loom.digest();
         Class<?> got = thrownBy(call);
         note(got == want, what + " threw " + got + ", due is " + want);
-        note(stateOf(loom).equals(before), what + " changed something");
+        is("digest behind " + what, loom.digest(), before);
+    }
+
+    /** As refuses, on a new loom of the maker: it shows all that one shows which was never called so. */
+    static void refused(String what, Class<?> want, Supplier<TreadleLoom> maker, Consumer<TreadleLoom> call) {
+        TreadleLoom loom = maker.get();
+        Class<?> got = thrownBy(() -> call.accept(loom));
+        note(got == want, what + " threw " + got + ", due is " + want);
+        is("state behind " + what, stateOf(loom), stateOf(maker.get()));
     }
 
     static Class<?> thrownBy(Runnable call) {
@@ -73,7 +96,8 @@ final class Checks {
     /** The numbers to which the program is compiled, as digits. */
     static String numbersOf(TreadleLoom loom, int program) {
         StringBuilder digits = new StringBuilder();
-        for (int place = 0; place < loom.ofProgram(program, 1); place++) {
+        int length = loom.ofProgram(program, 1);
+        for (int place = 0; place < length; place++) {
             digits.append(loom.number(program, place));
         }
         return digits.toString();
@@ -92,20 +116,34 @@ final class Checks {
         return Arrays.toString(ties);
     }
 
-    /** All that the loom shows of its state. */
+    /** What the loom shows of its state, by less than 350 calls if few programs are long. */
     static String stateOf(TreadleLoom loom) {
         StringBuilder state = new StringBuilder(tiesOf(loom));
         for (int program = 0; program < 10; program++) {
             state.append(' ').append(loom.ofProgram(program, 0)).append(':')
                     .append(faultOf(loom, program)).append(':').append(numbersOf(loom, program));
         }
-        for (int end = 0; end < loom.cloth(0); end++) {
-            state.append(' ');
-            for (int pick = 0; pick < loom.cloth(1); pick++) {
-                state.append(loom.field(end, pick, 0)).append(loom.field(end, pick, 1));
+        appendCloth(state, loom);
+        int withRoom = loom.ofProgram(9, 0) < 40 ? 9 : 8;
+        return state.append(' ').append(loom.digest()).append(' ').append(loom.floatWith(1, 0))
+                .append(loom.changedBy(0, 7)).append(loom.lengthWith(withRoom, 1)).toString();
+    }
+
+    private static void appendCloth(StringBuilder state, TreadleLoom loom) {
+        int ends = loom.cloth(0);
+        int picks = loom.cloth(1);
+        for (int end = 0; end < ends; end++) {
+            state.append(' ').append(loom.ups(end, true));
+            for (int pick = 0; pick < picks && ends * picks <= 40; pick++) {
+                state.append('/').append(loom.field(end, pick, 0)).append(loom.field(end, pick, 1));
             }
         }
-        return state.append(' ').append(loom.digest()).toString();
+        for (int pick = 0; pick < picks; pick++) {
+            state.append(' ').append(loom.ups(pick, false));
+        }
+        for (int colour = 0; colour < 8; colour++) {
+            state.append(' ').append(loom.seen(colour));
+        }
     }
 
     static void note(boolean isDue, String otherwise) {
@@ -113,7 +151,7 @@ final class Checks {
             passed++;
         } else {
             failed++;
-            System.out.println(otherwise);
+            System.out.println(about + otherwise);
         }
     }
 
