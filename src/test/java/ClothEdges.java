@@ -120,8 +120,8 @@ final class ClothEdges {
     }
 
     private static void clothOfShaftsThatWouldDo() {
-        Sentences.ofPromise(11, "8 how many SHAFTS would do (as many as there are sets of PICKS over which an END is UP,"
-                + " for some END, each counted once; that without PICKS, too, if there is such an END),");
+        Sentences.ofPromise(11, "8 how many SHAFTS would do (as many as there are sets of PICKS over which an END is"
+                + " UP, for some END, each counted once; that without PICKS, too, if there is such an END),");
         Checks.is("without both", Edges.empty().cloth(8), 0);
         Checks.is("without ends", picksAlone().cloth(8), 0);
         Checks.is("ends without picks", endsAlone().cloth(8), 1);
@@ -188,8 +188,8 @@ final class ClothEdges {
     }
 
     private static void fieldOfFloats() {
-        Sentences.ofPromise(12, "2 how long the FLOAT is that lies there, of the END, if it is UP, otherwise of the PICK"
-                + " Returns that.");
+        Sentences.ofPromise(12, "2 how long the FLOAT is that lies there, of the END, if it is UP, otherwise of the"
+                + " PICK Returns that.");
         lengthsAre("11111/13221/13122/13221", Edges.sample());
         lengthsAre("1", Edges.picture("#"));
         lengthsAre("1", Edges.picture("."));
@@ -332,8 +332,8 @@ final class ClothEdges {
     }
 
     private static void upsAnswers() {
-        Sentences.ofPromise(15, "end: an END - isEnd: whether it is an END, otherwise a PICK Returns over how many PICKS"
-                + " the END is UP, or how many ENDS are UP over the PICK.");
+        Sentences.ofPromise(15, "end: an END - isEnd: whether it is an END, otherwise a PICK Returns over how many"
+                + " PICKS the END is UP, or how many ENDS are UP over the PICK.");
         upsAre(Edges.sample(), true, 1, 3, 2, 1, 2);
         upsAre(Edges.sample(), false, 3, 2, 2, 2);
         upsAre(Edges.picture("#.#", "#.."), true, 2, 0, 1);
@@ -400,8 +400,8 @@ final class ClothEdges {
     }
 
     private static void repeatAnswers() {
-        Sentences.ofPromise(17, "isAcross: whether it is over ENDS, otherwise over PICKS Returns after how many ENDS (or"
-                + " PICKS) the cloth comes again, COLOURS aside: as with period(); 0 without FIELDS.");
+        Sentences.ofPromise(17, "isAcross: whether it is over ENDS, otherwise over PICKS Returns after how many ENDS"
+                + " (or PICKS) the cloth comes again, COLOURS aside: as with period(); 0 without FIELDS.");
         repeatsAre(Edges.empty(), 0, 0);
         repeatsAre(endsAlone(), 0, 0);
         repeatsAre(picksAlone(), 0, 0);

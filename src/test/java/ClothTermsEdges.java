@@ -178,8 +178,8 @@ final class ClothTermsEdges {
     }
 
     private static void hangingTogether() {
-        Sentences.ofTerms("The cloth HANGS together, if from each END and each PICK one comes to each other: from an END"
-                + " to the PICKS over which it is UP, from a PICK to the ENDS that are not UP on it; and so on.");
+        Sentences.ofTerms("The cloth HANGS together, if from each END and each PICK one comes to each other: from an"
+                + " END to the PICKS over which it is UP, from a PICK to the ENDS that are not UP on it; and so on.");
         Checks.is("plain weave", Edges.picture("#.", ".#").hangs(), true);
         Checks.is("the other plain weave", Edges.picture(".#", "#.").hangs(), true);
         Checks.is("all up", Edges.picture("##", "##").hangs(), false);

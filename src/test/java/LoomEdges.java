@@ -78,8 +78,8 @@ final class LoomEdges {
     }
 
     private static void twillTies() {
-        Sentences.ofPromise(9, "Ties all TREADLES anew: the TREADLE k to the SHAFTS (k + i) % n, for each i from 0 to up"
-                + " - 1;");
+        Sentences.ofPromise(9, "Ties all TREADLES anew: the TREADLE k to the SHAFTS (k + i) % n, for each i from 0 to"
+                + " up - 1;");
         for (int n = 2; n <= 8; n++) {
             for (int up = 1; up <= n; up++) {
                 TreadleLoom loom = tiedUp();

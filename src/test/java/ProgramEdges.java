@@ -240,8 +240,8 @@ final class ProgramEdges {
     }
 
     private static void numberAnswers() {
-        Sentences.ofPromise(5, "program: a PROGRAM - place: a place in what it is COMPILED to, from 0 Returns the number"
-                + " there.");
+        Sentences.ofPromise(5, "program: a PROGRAM - place: a place in what it is COMPILED to, from 0 Returns the"
+                + " number there.");
         for (int program = 0; program <= 9; program++) {
             TreadleLoom loom = Edges.with(program, 3, 4, 5, 7, UP);
             Checks.is("the first", loom.number(program, 0), 3);
@@ -273,9 +273,9 @@ final class ProgramEdges {
     }
 
     private static void periodAnswers() {
-        Sentences.ofPromise(6, "program: a PROGRAM Returns after how many numbers what it is COMPILED to comes again: the"
-                + " least p above 0 with which each number is that which is p places ahead of it, if there is one; 0 for"
-                + " nothing.");
+        Sentences.ofPromise(6, "program: a PROGRAM Returns after how many numbers what it is COMPILED to comes again:"
+                + " the least p above 0 with which each number is that which is p places ahead of it, if there is one;"
+                + " 0 for nothing.");
         periodIs(0);
         periodIs(0, OPEN, CLOSE);
         periodIs(0, 1, 1, CLOSE);
@@ -383,7 +383,8 @@ final class ProgramEdges {
                 Edges.taken("token " + token, Edges::sample, loom -> loom.lengthWith(0, wrong));
             } else {
                 Checks.refused("token " + token, Checks.ARGUMENT, Edges::sample, loom -> loom.lengthWith(0, wrong));
-                Checks.refused("as token 41", Checks.ARGUMENT, () -> Edges.full(9, 1), loom -> loom.lengthWith(9, wrong));
+                Checks.refused("as token 41", Checks.ARGUMENT, () -> Edges.full(9, 1),
+                        loom -> loom.lengthWith(9, wrong));
             }
         }
         Edges.refusedOutside(0, 49, Checks.ARGUMENT, Edges::sample, (loom, token) -> loom.lengthWith(9, token));

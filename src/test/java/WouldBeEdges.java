@@ -45,12 +45,7 @@ final class WouldBeEdges {
         for (int one = 0; one <= 7; one++) {
             TreadleLoom loom = Edges.sample();
             for (int other = 0; other <= 7; other++) {
-                loom.floatWith(one, other);
-                loom.hangsWith(one, other);
-                loom.changedBy(one, other);
-                loom.lengthWith(one + 2, other);
-                loom.lengthWith(one, 40 + Math.max(4, other));
-                loom.digest();
+                askWhatWouldBe(loom, one, other);
             }
             Checks.is("state", Checks.stateOf(loom), due);
             loom.floatWith(0, 0);
@@ -58,6 +53,20 @@ final class WouldBeEdges {
             loom.changedBy(0, 7);
             Checks.is("ties behind changedBy", Checks.tiesOf(loom), "[132, 10, 6, 8, 16, 32, 64, 1]");
         }
+    }
+
+    private static void askWhatWouldBe(TreadleLoom loom, int one, int other) {
+        long due = loom.digest();
+        loom.floatWith(one, other);
+        Checks.is("digest behind floatWith", loom.digest(), due);
+        loom.hangsWith(one, other);
+        Checks.is("digest behind hangsWith", loom.digest(), due);
+        loom.changedBy(one, other);
+        Checks.is("digest behind changedBy", loom.digest(), due);
+        loom.lengthWith(one + 2, other);
+        Checks.is("digest behind lengthWith", loom.digest(), due);
+        loom.lengthWith(one, 40 + Math.max(4, other));
+        Checks.is("digest behind lengthWith a block", loom.digest(), due);
     }
 
     /** The loom, and the treadle is tied to the shaft, or, if it is, not any more. */
@@ -99,7 +108,8 @@ final class WouldBeEdges {
     }
 
     private static void hangsWithAnswers() {
-        Sentences.ofPromise(22, "treadle: a TREADLE - shaft: a SHAFT Returns whether the cloth would HANG together then.");
+        Sentences.ofPromise(22, "treadle: a TREADLE - shaft: a SHAFT Returns whether the cloth would HANG together"
+                + " then.");
         for (int treadle = 0; treadle <= 7; treadle++) {
             for (int shaft = 0; shaft <= 7; shaft++) {
                 Checks.is("of the sample", Edges.sample().hangsWith(treadle, shaft),
@@ -144,8 +154,8 @@ final class WouldBeEdges {
     }
 
     private static void changedByAnswers() {
-        Sentences.ofPromise(24, "one: a SHAFT - other: a SHAFT Returns on how many FIELDS it would be otherwise whether the"
-                + " END is UP, with swap().");
+        Sentences.ofPromise(24, "one: a SHAFT - other: a SHAFT Returns on how many FIELDS it would be otherwise whether"
+                + " the END is UP, with swap().");
         for (int one = 0; one <= 7; one++) {
             for (int other = 0; other <= 7; other++) {
                 Checks.is("of the sample", Edges.sample().changedBy(one, other), otherwise(one, other));
@@ -226,8 +236,8 @@ final class WouldBeEdges {
     }
 
     private static void digestAnswers() {
-        Sentences.ofPromise(25, "Computes a checksum. A number d starts with 58095; for each of the following numbers v, d"
-                + " becomes d * 31 + v,");
+        Sentences.ofPromise(25, "Computes a checksum. A number d starts with 58095; for each of the following numbers"
+                + " v, d becomes d * 31 + v,");
         List<Integer> none = new ArrayList<>();
         for (int program = 0; program <= 9; program++) {
             none.addAll(List.of(0, 0, 0, -1, 0));
@@ -248,8 +258,8 @@ final class WouldBeEdges {
 
     private static void digestTellsEachNumber() {
         Sentences.ofPromise(25, "PROGRAM by PROGRAM ofProgram() of 0 to 3, period(), and each number(); tied() of each"
-                + " TREADLE; cloth() of 0 to 9; repeat() over ENDS, then over PICKS; 1 if it HANGS together, otherwise 0;"
-                + " reach() of ENDS, then of PICKS; floats() of 2, 3 and 5; seen() of 0 to 3.");
+                + " TREADLE; cloth() of 0 to 9; repeat() over ENDS, then over PICKS; 1 if it HANGS together, otherwise"
+                + " 0; reach() of ENDS, then of PICKS; floats() of 2, 3 and 5; seen() of 0 to 3.");
         Checks.is("numbers of the cloth", clothOf(manifold()).toString(),
                 "[9, 11, 26, 8, 9, 16, 3, 3, 3, 3, 9, 11, 1, 9, 11, 20, 14, 11, 15, 42, 26, 16]");
         Checks.is("digest", manifold().digest(), digestOf(numbersOf(manifold())));
